@@ -51,17 +51,14 @@ final class Due {
   /** A new object with a text that must be without a fault. */
   static GatedDevices with(String text) {
     GatedDevices x = new GatedDevices();
-    int lines = 0;
-    for (char sign : text.toCharArray()) {
-      lines += sign == ';' ? 1 : 0;
-    }
-    due("text: " + text, tell(x, text), lines);
+    due("text: " + text, tell(x, text), linesOf(text));
     return x;
   }
 
+  /** Of a text told to a new object: its fault and place; 0 and -1: without. */
   static void fault(String text, int sort, int place) {
     GatedDevices x = new GatedDevices();
-    due("text: " + text, tell(x, text), sort == 0 ? x.count(0) * 0 + linesOf(text) : -1);
+    due("text: " + text, tell(x, text), sort == 0 ? linesOf(text) : -1);
     due("fault(0): " + text, x.fault(0), sort);
     due("fault(1): " + text, x.fault(1), place);
   }
