@@ -90,6 +90,14 @@ public final class GroupsTest {
     GatedDevices z = Due.with("bridge n root 1;bridge p root 1;device a n;device b n;device c p;device d p;alias b c;");
     held(z, 0, 3, 1, 1);
     held(z, 2, 3, 1, 2);
+    // Two that are nested part them, but one with a greater number does alone.
+    GatedDevices w = Due.with("bridge n root 1;bridge m n 1;bridge o root 2;device a m;device b m;device c o;device d o;"
+        + "alias b c;");
+    held(w, 0, 1, 2, 3);
+    held(w, 0, 3, 1, 4);
+    // Bridges that part already are none of a set.
+    GatedDevices v = Due.with("bridge n root 0;bridge m n 1;bridge o m 0;device a o;device b o;");
+    held(v, 0, 1, 1, 2);
   }
 
   private static void held(GatedDevices x, int one, int other, int many, int set) {

@@ -82,7 +82,9 @@ public final class ImagesTest {
     for (int half = 0; half < 2; half++) {
       GatedDevices x = busy();
       Due.due("kept", x.keep(), 2);
-      x.serve(true);
+      x.map(0, 20, 20, 3, false);
+      Due.due("a stale hit", x.use(1, 9, 1), 9);
+      Due.due("one is taken", x.serve(true), 1);
       x.work(24);
       x.detach(0);
       x.flush(1);

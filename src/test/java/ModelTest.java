@@ -43,7 +43,7 @@ public final class ModelTest {
   private void run() throws Exception {
     int made = 0;
     if (random.nextInt(10) > 0) made += text(false);
-    int wanted = random.nextInt(5);
+    int wanted = 1 + random.nextInt(4);
     for (int k = 0; k < wanted; k++) made += call("domain", random.nextBoolean());
     // Some runs work their queue seldom, that it may be full.
     int haste = 1 + random.nextInt(6);
