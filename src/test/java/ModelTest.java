@@ -29,6 +29,7 @@ public final class ModelTest {
     for (long seed = first; seed < first + runs && Due.allWell(); seed++) {
       ModelTest run = new ModelTest(seed);
       run.run();
+      new ModelTest(-seed).texts();
       if (!Due.allWell()) {
         System.out.println("seed " + seed + ": " + String.join("\n  ", run.calls));
       }
@@ -53,6 +54,14 @@ public final class ModelTest {
       if (dice < 1 && random.nextInt(3) == 0) made += text(random.nextInt(3) > 0);
       else if (dice < 60) made += change(haste);
       else made += ask();
+    }
+  }
+
+  /** Texts, most of them spoilt: each must have the same first fault. */
+  private void texts() throws Exception {
+    for (int k = 0; k < 10 && Due.allWell(); k++) {
+      text(k > 0);
+      if (!Due.allWell()) System.out.println(calls.get(calls.size() - 1));
     }
   }
 
