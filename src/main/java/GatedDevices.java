@@ -917,7 +917,9 @@ public final class GatedDevices {
     private final int[] blockAt = new int[MOST_DOMAINS * BLOCKS];
 
     Tables() {
-      fillRow(frameAt, NONE);
+      for (int i = 0; i < frameAt.length; i++) {
+        frameAt[i] = NONE;
+      }
     }
 
     void clear() {
@@ -1672,7 +1674,9 @@ public final class GatedDevices {
     private final int[] domainBy = new int[MOST_DEVICES];
 
     State() {
-      fillRow(domainBy, NONE);
+      for (int d = 0; d < domainBy.length; d++) {
+        domainBy[d] = NONE;
+      }
     }
 
     /** All as new beneath another tree. */
