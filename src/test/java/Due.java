@@ -6,6 +6,8 @@ import java.util.NoSuchElementException;
 final class Due {
   private static int held = 0;
   private static int wrong = 0;
+  // The sentence of the document that the answers are held against, where a test is of one sentence.
+  private static String sentence = "";
 
   private Due() {
   }
@@ -14,8 +16,13 @@ final class Due {
     held++;
     if (got != want) {
       wrong++;
-      System.out.println(call + " answered " + got + ", due is " + want);
+      System.out.println(sentence + call + " answered " + got + ", due is " + want);
     }
+  }
+
+  /** From here on answers are held against this sentence of a promise (of a term: the promise that shows it). */
+  static void edge(int promise, String words) {
+    sentence = "Promise " + promise + ", \"" + words + "\": ";
   }
 
   static void end(String name) {
