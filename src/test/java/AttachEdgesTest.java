@@ -207,6 +207,13 @@ public final class AttachEdgesTest {
     Due.due("two are left", x.domainOf(0, 1), 2);
     x.detach(2);
     Due.due("none", x.domainOf(0, 1), 0);
+    GatedDevices pair = Due.with("device a root;device b root;span a 1 2;span b 2 3;");
+    pair.domain(false);
+    pair.attach(0, 0);
+    pair.attach(1, 0);
+    pair.detach(1);
+    Due.due("PAGE 2 is the first DEVICE's, too", pair.page(0, 2, 2), 1);
+    Due.due("PAGE 3 isn't", pair.page(0, 3, 2), -2);
     GatedDevices w = three();
     w.attach(0, 0);
     w.attach(2, 0);

@@ -97,7 +97,7 @@ public final class ImageEdgesTest {
     return x;
   }
 
-  /** All but the tables, in a row; some 400 questions, since an object has 512 calls. */
+  /** What can be told, in a row; some 300 questions, since an object has 512 calls. */
   private static List<Long> all(GatedDevices x) {
     List<Long> row = new ArrayList<>();
     for (int what = 0; what <= 20; what++) row.add((long) x.count(what));
@@ -119,10 +119,12 @@ public final class ImageEdgesTest {
     return row;
   }
 
-  /** Asked of a device c that has no domain, and of pages. */
+  /** What can be told of pages, gaps and groups. */
   private static List<Long> rest(GatedDevices x) {
     List<Long> row = new ArrayList<>();
-    for (int d = 0; d < 2; d++) for (int p = 0; p < 64; p += 2) for (int what = 0; what < 5; what++) row.add((long) x.page(d, p, what));
+    for (int d = 0; d < 2; d++) {
+      for (int p = 0; p < 64; p += 2) for (int what = 0; what < 5; what++) row.add((long) x.page(d, p, what));
+    }
     for (int n = 1; n < 64; n += 7) row.add((long) x.gap(0, n));
     row.add(x.shared(0, 1));
     for (int d = 0; d < 3; d++) row.add((long) x.group(d));
@@ -165,7 +167,9 @@ public final class ImageEdgesTest {
   private static void keepsAll() {
     Due.edge(36, "An IMAGE keeps all (CAUSES, RECORDS, counts, too)");
     GatedDevices alike = busy();
-    for (int what = 0; what <= 20; what++) Due.due("ahead: is there some count(" + what + ")", alike.count(what) > 0 ? 1 : 0, 1);
+    for (int what = 0; what <= 20; what++) {
+      Due.due("ahead: is there some count(" + what + ")", alike.count(what) > 0 ? 1 : 0, 1);
+    }
     for (int half = 0; half < 2; half++) {
       GatedDevices x = busy();
       x.keep();

@@ -298,7 +298,9 @@ public final class LookEdgesTest {
     x.map(0, 8, 63, 1, false);
     x.unmap(1, 0);
     int[][] want = {{0, 63, 0, 1, 0}, {1, 0, 63, 2, 1}, {1, 1, 5, 3, 0}};
-    for (int k = 0; k < 3; k++) for (int what = 0; what < 5; what++) Due.due("cached(" + k + ", " + what + ")", x.cached(k, what), want[k][what]);
+    for (int k = 0; k < 3; k++) {
+      for (int what = 0; what < 5; what++) Due.due("cached(" + k + ", " + what + ")", x.cached(k, what), want[k][what]);
+    }
     x.work(1);
     for (int what = 0; what < 5; what++) Due.due("behind one that went", x.cached(1, what), want[2][what]);
     x.map(1, 0, 63, 2, false);

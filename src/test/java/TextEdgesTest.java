@@ -8,6 +8,7 @@ public final class TextEdgesTest {
     text();
     textThatIsRefused();
     textBeginsAnew();
+    textAhead();
     tokens();
     tooMuch();
     tooMany();
@@ -211,6 +212,34 @@ public final class TextEdgesTest {
     Due.due("no DEVICES", y.count(0), 0);
     Due.due("no DOMAINS", y.count(3), 0);
     Due.due("no IMAGE", y.back(), -1);
+  }
+
+  /** Nothing of a text ahead is left, be the next one shorter or have a fault ahead of it been told. */
+  private static void textAhead() {
+    Due.edge(3, "The TAPE's first n bytes (it is empty then) are the TEXT");
+    GatedDevices x = Due.with("bridge n root 2;bridge m n 1;device a m;device b m;device c n;device d root;alias d a;"
+        + "span a 3 9;span b 20 20;stall a;stall b;room 16;seed 5;");
+    Due.due("with a FAULT", Due.tell(x, "bridge o root 2;device z o;device y o;stall z;alias z y;?"), -1);
+    Due.due("shorter", Due.tell(x, "bridge p root 0;bridge q p 0;device e q;device f q;device g p;"), 5);
+    Due.due("DEVICES", x.count(0), 3);
+    Due.due("BRIDGES", x.count(1), 2);
+    Due.due("GROUPS", x.count(2), 3);
+    for (int d = 0; d < 3; d++) {
+      Due.due("the GROUP of " + d, x.group(d), 1 << d);
+      Due.due("SIGN of " + d, Due.device(x, d, 3), d);
+      Due.due("does " + d + " STALL", Due.device(x, d, 4), 0);
+    }
+    Due.due("a fourth", x.group(3), -1);
+    for (String name : "a b c d z y".split(" ")) Due.due("DEVICE " + name, x.named(0, Due.letters(name)), -1);
+    for (String name : "n m o".split(" ")) Due.due("BRIDGE " + name, x.named(1, Due.letters(name)), -1);
+    x.domain(false);
+    for (int d = 0; d < 3; d++) Due.due("no SPANS", x.attach(d, 0), 0);
+    Due.due("parting", x.parting(0, 1), 0);
+    Due.due("devices alone", Due.tell(x, "device h root;device i root;device j root;"), 3);
+    for (int d = 0; d < 3; d++) Due.due("BRIDGES above " + d, Due.device(x, d, 7), 0);
+    Due.due("nothing", x.text(0), 0);
+    Due.due("none", x.count(0) + x.count(1) + x.count(2), 0);
+    Due.due("none such", x.named(0, Due.letters("h")), -1);
   }
 
   private static void tablesAnew() {
