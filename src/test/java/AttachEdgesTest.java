@@ -317,6 +317,10 @@ public final class AttachEdgesTest {
     Due.edge(18, "9 no DOMAIN, or one already (the lowest DEVICE of the GROUP)");
     x.detach(2);
     Due.causes("detach", x, 9, 1);
+    x.use(2, 7, 1);
+    Due.causes("use of b", x, 10, 2, 9, 1);
+    x.use(1, 7, 1);
+    Due.causes("use of a", x, 10, 1, 9, 1);
     x.attach(2, 1);
     x.attach(2, 1);
     Due.causes("attach", x, 9, 1);

@@ -195,6 +195,7 @@ public final class ImageEdgesTest {
     Due.due("b's DOMAIN, PAGE and right", asked.tried(2), 1);
     Due.due("b's DOMAIN, PAGE and right", asked.serve(true), 1);
     framesKept();
+    fencesKept();
     // What comes later is as it would have been, too.
     GatedDevices x = busy();
     x.keep();
@@ -239,6 +240,20 @@ public final class ImageEdgesTest {
     y.flush(0);
     y.work(24);
     Due.due("it came", y.frame(0, 0), 0);
+  }
+
+  private static void fencesKept() {
+    GatedDevices x = new GatedDevices();
+    for (int k = 0; k < 20; k++) x.fence();
+    x.work(13);
+    x.keep();
+    for (int k = 0; k < 20; k++) x.fence();
+    x.work(24);
+    x.back();
+    Due.due("FENCES that came", x.count(5), 20);
+    Due.due("that passed", x.count(6), 13);
+    Due.due("the first in the QUEUE", x.queued(0, 2), 14);
+    Due.due("the next one", x.fence(), 21);
   }
 
   private static void feed(GatedDevices x, String text) {
