@@ -838,7 +838,7 @@ public final class GatedDevices {
       return REFUSED;
     }
 
-    /** The next token comes to place, sort, value and word. */
+    /** The next token comes to place, sort and value. */
     private void advance() {
       while (next < end && (at(tape, next) == 10 || at(tape, next) == 32)) {
         next++;
